@@ -50,18 +50,18 @@ public final class NarrowRings {
         tape = new int[TAPE];
         city = new City();
         spare = new City();
-        reader = new Reader(tape);
-        finder = new Finder();
+        reader = new Reader(tape, spare);
+        finder = new Finder(city);
         ways = new Way[City.ORDERS];
         for (int i = 0; i < City.ORDERS; i++) {
             ways[i] = new Way();
         }
         asked = new Way();
         askedRow = new int[City.ORDER_ROW];
-        day = new Day();
+        day = new Day(city, ways);
         marks = new Day[MARKS];
         for (int i = 0; i < MARKS; i++) {
-            marks[i] = new Day();
+            marks[i] = new Day(city, ways);
         }
         acts = new Acts();
         thief = new Thief();
@@ -631,49 +631,46 @@ public final class NarrowRings {
         return by <= 1 ? number : (number + by - 1) / by;
     }
 
-    /** What is to be moved: a good, a part of one, or a ram. */
+    /** What is to be moved: a good, a part of one, or a ram; its measures are by POSES. */
     private static final class Thing {
         static final int LYING = 0;
         static final int ON_SIDE = 1;
         static final int UPRIGHT = 2;
         static final int POSES = 3;
 
-        int length;
-        int wide;
-        int high;
+        final int[] length;
+        final int[] wide;
+        final int[] high;
         int weight;
         int loads;
         boolean turns;
         boolean tilts;
 
-        void measure(int newLength, int newWide, int newHigh) {
-            length = newLength;
-            wide = newWide;
-            high = newHigh;
+        Thing() {
+            length = new int[POSES];
+            wide = new int[POSES];
+            high = new int[POSES];
+        }
+
+        void measure(int itsLength, int itsWide, int itsHigh) {
+            pose(LYING, itsLength, itsWide, itsHigh);
+            pose(ON_SIDE, itsLength, itsHigh, itsWide);
+            pose(UPRIGHT, itsHigh, itsWide, itsLength);
+        }
+
+        private void pose(int pose, int poseLength, int poseWide, int poseHigh) {
+            length[pose] = poseLength;
+            wide[pose] = poseWide;
+            high[pose] = poseHigh;
         }
 
         boolean canLie(int pose) {
             return pose == LYING || pose == ON_SIDE && turns || pose == UPRIGHT && tilts;
         }
 
-        int lengthIn(int pose) {
-            return pose == UPRIGHT ? high : length;
-        }
-
-        int wideIn(int pose) {
-            return pose == ON_SIDE ? high : wide;
-        }
-
-        int highIn(int pose) {
-            if (pose == ON_SIDE) {
-                return wide;
-            }
-            return pose == UPRIGHT ? length : high;
-        }
-
-        /** The least width of its poses: upright it is as wide as lying. */
+        /** The least width of its POSES: upright it is as wide as lying. */
         int narrowest() {
-            return turns && high < wide ? high : wide;
+            return turns && wide[ON_SIDE] < wide[LYING] ? wide[ON_SIDE] : wide[LYING];
         }
     }
 
@@ -760,7 +757,7 @@ public final class NarrowRings {
         }
 
         boolean ringTakes(Thing thing, int pose, int ring) {
-            return thing.wideIn(pose) <= width[ring];
+            return thing.wide[pose] <= width[ring];
         }
 
         boolean ringBears(Thing thing, int ring) {
@@ -784,15 +781,15 @@ public final class NarrowRings {
             int[] row = gate[g];
             int outer = width[row[RING]];
             int inner = width[row[RING] + 1];
-            int wide = thing.wideIn(pose);
-            int corner = thing.lengthIn(pose) + wide;
+            int wide = thing.wide[pose];
+            int corner = thing.length[pose] + wide;
             if (wide > outer) {
                 return 1;
             }
             if (wide > row[WIDE]) {
                 return 2;
             }
-            if (thing.highIn(pose) > row[HIGH]) {
+            if (thing.high[pose] > row[HIGH]) {
                 return 3;
             }
             if (wide > inner) {
@@ -905,8 +902,9 @@ public final class NarrowRings {
         private int names;
         private final int[] measure;
 
-        Reader(int[] tape) {
+        Reader(int[] tape, City target) {
             text = tape;
+            into = target;
             name = new long[NAMES];
             goodOf = new int[NAMES];
             measure = new int[MEASURES];
@@ -1286,11 +1284,13 @@ public final class NarrowRings {
 
         private City city;
         private int first;
+        private int least;
         private final int[] price;
         private final int[] rest;
         private final int[] next;
 
-        Finder() {
+        Finder(City inCity) {
+            city = inCity;
             price = new int[City.GATES];
             rest = new int[City.GATES];
             next = new int[City.GATES];
@@ -1300,10 +1300,14 @@ public final class NarrowRings {
         void seek(City inCity, int[] ends, Way way) {
             city = inCity;
             way.found = false;
-            int good = ends[City.GOOD];
-            keepIfBest(city.whole[good], false, costOf(city.whole[good], ends), way);
-            if (city.canCut(good)) {
-                keepIfBest(city.part[good], true, costOf(city.part[good], ends), way);
+            for (int i = 0; i < 2; i++) {
+                // Whole goes ahead of CUT, which must be better to be BEST.
+                boolean cut = i == 1;
+                Thing thing = city.thing(ends[City.GOOD], cut);
+                if (thing.loads > 0 && allBear(thing, ends[City.FROM_RING], ends[City.TO_RING])) {
+                    priceGates(thing);
+                    keepIfBest(thing, cut, costOf(ends), way);
+                }
             }
         }
 
@@ -1327,19 +1331,24 @@ public final class NarrowRings {
             }
         }
 
-        /** The least of one load, PAY and HOURS in one; FAR if there is no way. */
-        private int costOf(Thing thing, int[] ends) {
+        private boolean allBear(Thing thing, int ring, int toRing) {
+            for (int r = Math.min(ring, toRing); r <= Math.max(ring, toRing); r++) {
+                if (!city.ringBears(thing, r)) {
+                    return false;
+                }
+            }
+            return true;
+        }
+
+        /** The least by the priced gates, PAY and HOURS in one; FAR if there is no way. */
+        private int costOf(int[] ends) {
             int ring = ends[City.FROM_RING];
             int toRing = ends[City.TO_RING];
             int place = ends[City.FROM_PLACE];
             first = NONE;
-            if (!allBear(thing, Math.min(ring, toRing), Math.max(ring, toRing))) {
-                return FAR;
-            }
             if (ring == toRing) {
                 return apart(place, ends[City.TO_PLACE]);
             }
-            priceGates(thing);
             // A gate is told by its outer ring.
             int inward = toRing > ring ? 1 : -1;
             int begin = inward > 0 ? ring : ring - 1;
@@ -1349,16 +1358,7 @@ public final class NarrowRings {
                 restFrom(end - i * inward, end - (i - 1) * inward);
             }
             first = firstBest(begin, place);
-            return costBy(first, place);
-        }
-
-        private boolean allBear(Thing thing, int outermost, int innermost) {
-            for (int ring = outermost; ring <= innermost; ring++) {
-                if (!city.ringBears(thing, ring)) {
-                    return false;
-                }
-            }
-            return true;
+            return least;
         }
 
         private void priceGates(Thing thing) {
@@ -1380,10 +1380,8 @@ public final class NarrowRings {
         private void restFrom(int ring, int nextRing) {
             for (int g = 0; g < city.gates; g++) {
                 if (city.gate[g][City.RING] == ring) {
-                    int place = city.gate[g][City.PLACE];
-                    next[g] = firstBest(nextRing, place);
-                    int beyond = costBy(next[g], place);
-                    rest[g] = price[g] >= FAR || beyond >= FAR ? FAR : price[g] + beyond;
+                    next[g] = firstBest(nextRing, city.gate[g][City.PLACE]);
+                    rest[g] = price[g] >= FAR || least >= FAR ? FAR : price[g] + least;
                 }
             }
         }
@@ -1391,21 +1389,17 @@ public final class NarrowRings {
         /** The first gate from a ring by which the rest of the way, from a place, is least. */
         private int firstBest(int ring, int place) {
             int best = NONE;
-            int least = FAR;
+            least = FAR;
             for (int g = 0; g < city.gates; g++) {
-                if (city.gate[g][City.RING] == ring && costBy(g, place) < least) {
-                    best = g;
-                    least = costBy(g, place);
+                if (city.gate[g][City.RING] == ring && rest[g] < FAR) {
+                    int cost = apart(place, city.gate[g][City.PLACE]) + rest[g];
+                    if (cost < least) {
+                        best = g;
+                        least = cost;
+                    }
                 }
             }
             return best;
-        }
-
-        private int costBy(int g, int place) {
-            if (g == NONE || rest[g] >= FAR) {
-                return FAR;
-            }
-            return apart(place, city.gate[g][City.PLACE]) + rest[g];
         }
     }
 
@@ -1445,7 +1439,9 @@ public final class NarrowRings {
         private City city;
         private Way[] ways;
 
-        Day() {
+        Day(City ofCity, Way[] ofOrders) {
+            city = ofCity;
+            ways = ofOrders;
             row = new int[LOAD_ROW][LOADS];
             onCart = new int[City.CARTS];
             atGate = new int[City.GATES];
