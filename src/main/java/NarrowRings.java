@@ -653,15 +653,15 @@ public final class NarrowRings {
         }
 
         void measure(int itsLength, int itsWide, int itsHigh) {
-            pose(LYING, itsLength, itsWide, itsHigh);
-            pose(ON_SIDE, itsLength, itsHigh, itsWide);
-            pose(UPRIGHT, itsHigh, itsWide, itsLength);
-        }
-
-        private void pose(int pose, int poseLength, int poseWide, int poseHigh) {
-            length[pose] = poseLength;
-            wide[pose] = poseWide;
-            high[pose] = poseHigh;
+            length[LYING] = itsLength;
+            wide[LYING] = itsWide;
+            high[LYING] = itsHigh;
+            length[ON_SIDE] = itsLength;
+            wide[ON_SIDE] = itsHigh;
+            high[ON_SIDE] = itsWide;
+            length[UPRIGHT] = itsHigh;
+            wide[UPRIGHT] = itsWide;
+            high[UPRIGHT] = itsLength;
         }
 
         boolean canLie(int pose) {
@@ -969,18 +969,14 @@ public final class NarrowRings {
                 kind = behind - at <= DIGITS ? WHOLE : BAD;
                 return;
             }
-            kind = signAt();
             behind = at + 1;
-        }
-
-        private int signAt() {
             if (at >= length) {
-                return END;
+                kind = END;
+            } else if (text[at] == ';') {
+                kind = SEMICOLON;
+            } else {
+                kind = text[at] == ',' ? COMMA : BAD;
             }
-            if (text[at] == ';') {
-                return SEMICOLON;
-            }
-            return text[at] == ',' ? COMMA : BAD;
         }
 
         private boolean isWord(String word) {

@@ -325,7 +325,19 @@ public final class CityTest {
     private static void names() {
         fine(RINGS + "gate in in 0 at 0 wide 1 high 1 hands 1 toll 0;cart wide in 0 bears 1", 2);
         fine(RINGS + "good long long 1 wide 1 high 1 weighs 1;order of of long from 0,0 to 0,0 hour 0", 2);
-        fine("rings 9,9;good z long 1 wide 1 high 1 weighs 1;good zz long 1 wide 1 high 1 weighs 1", 2);
+        String[] alike = {"a", "aa", "b", "bb", "z", "zz", "zzzzzzzz", "aaaaaaaa"};
+        StringBuilder text = new StringBuilder("rings 9,9");
+        for (String name : alike) {
+            text.append(";good ").append(name).append(" long 1 wide 1 high 1 weighs 1");
+        }
+        fine(text.toString(), 2);
+        for (String word : "rings gate cart store good order parts tilts holy".split(" ")) {
+            fault(RINGS + "gate " + word, 1, 17);
+            fault(RINGS + "cart " + word, 1, 17);
+            fault(RINGS + "good " + word, 1, 17);
+            fault(RINGS + "order " + word, 1, 18);
+            fault(RINGS + "order o of " + word, 1, 23);
+        }
         NarrowRings x = new NarrowRings();
         Check.tell(x, RINGS + GOOD + ";x");
         CHECK.due("names of a text before are gone", Check.tell(x, RINGS + GOOD), 2);
