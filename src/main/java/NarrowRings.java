@@ -606,6 +606,10 @@ public final class NarrowRings {
         int[] row = city.gate[gate];
         int oldWide = row[City.WIDE];
         int oldHigh = row[City.HIGH];
+        // Such a breach opens no way: the ways need not be looked for again.
+        if (row[City.CLOSED] != 0 || wide <= oldWide && high <= oldHigh) {
+            return 0;
+        }
         int saving = allPay();
         enlarge(row, wide, high);
         for (int order = 0; order < city.orders; order++) {
