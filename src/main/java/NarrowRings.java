@@ -198,11 +198,11 @@ public final class NarrowRings {
     }
 
     public int gateOf(int order, int i) {
-        if (!isOrder(order)) {
+        // Below 0 there is no i-th of anything; only from 0 up does it hang on the way.
+        if (!isOrder(order) || i < 0) {
             return refuse(NO_SUCH);
         }
         Way way = ways[order];
-        // Without a way there is no count that i could be out of, so 6 goes ahead of i's 1.
         if (!way.found) {
             return refuse(IS_NONE);
         }

@@ -649,8 +649,9 @@ final class Model {
 
     private int gateOf(int[] a) {
         Way way = order(a[0]);
+        need(a[1] >= 0, 1);
         need(way != null, 6);
-        need(in(a[1], way.gates.size()), 1);
+        need(a[1] < way.gates.size(), 1);
         return way.gates.get(a[1]);
     }
 

@@ -125,7 +125,7 @@ public final class ModelTest {
             case "deepest": case "deepestCut": return new int[] {good()};
             case "pay": case "hours": return new int[] {good(), ring(), upTo(12), ring(), upTo(12)};
             case "payOf": case "hoursOf": case "loadsOf": return new int[] {upTo(x.size(4))};
-            case "gateOf": return new int[] {upTo(x.size(4)), random.nextInt(6)};
+            case "gateOf": return new int[] {upTo(x.size(4)), random.nextInt(8) - 1};
             case "pass": return new int[] {1 + upTo(random.nextInt(5) == 0 ? 60 : 8)};
             case "load": return new int[] {upTo(12), upTo(8)};
             case "cart": return new int[] {upTo(x.size(2))};

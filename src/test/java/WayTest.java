@@ -124,6 +124,10 @@ public final class WayTest {
         CHECK.due("hoursOf", x, x.hoursOf(0), -2, 0);
         CHECK.due("loadsOf", x, x.loadsOf(0), -1, 6);
         CHECK.due("gateOf", x, x.gateOf(0, 0), -1, 6);
+        CHECK.due("gateOf far", x, x.gateOf(0, Integer.MAX_VALUE), -1, 6);
+        CHECK.due("gateOf below", x, x.gateOf(0, -1), -1, 1);
+        CHECK.due("gateOf lowest", x, x.gateOf(0, Integer.MIN_VALUE), -1, 1);
+        CHECK.due("gateOf no order", x, x.gateOf(3, 0), -1, 1);
         CHECK.due("all", x, x.all(), 9999 + 9999, 0);
         CHECK.due("led 0", led(x, 0), 0);
         CHECK.due("led 1", led(x, 1), 2);
