@@ -5,16 +5,22 @@ final class Check {
     private final String name;
     private int calls = 0;
     private int wrong = 0;
+    private String promise = "";
 
     Check(String name) {
         this.name = name;
+    }
+
+    /** What follows is due by this promise, until the next one is named. */
+    void promise(int number, String call) {
+        promise = "promise " + number + " (" + call + "): ";
     }
 
     void due(String call, long got, long want) {
         calls++;
         if (got != want) {
             wrong++;
-            System.out.println(name + ": " + call + " answered " + got + ", due is " + want);
+            System.out.println(name + ": " + promise + call + " answered " + got + ", due is " + want);
         }
     }
 
