@@ -28,6 +28,7 @@ public final class EdgeBreachTest {
         theftByAllGates();
         theftFits();
         theftCut();
+        theftRoundTheRings();
         CHECK.end();
     }
 
@@ -474,5 +475,39 @@ public final class EdgeBreachTest {
         CHECK.due("a part just turns", x, x.theft(1, 1, 0, 4, true), 3, 0);
         CHECK.due("whole it turns nowhere", x, x.theft(1, 1, 0, 99, false), 0, 0);
         CHECK.due("a part of one more", x, x.theft(2, 1, 0, 4, true), 1, 0);
+    }
+
+    /** From every place to a gate at every place: the nearer way round, and just as short from ring 0 in and out. */
+    private static void theftRoundTheRings() {
+        CHECK.promise(35, "theft, 12 round");
+        int[] round = {0, 1, 2, 3, 4, 5, 6, 5, 4, 3, 2, 1};
+        for (int at = 0; at < 12; at++) {
+            NarrowRings x = Check.city("rings 9,9,9" + gate("g", 1, at, 9, 9, 0) + gate("h", 0, (at + 4) % 12, 9, 9, 0)
+                + good("a", 1, 1, 1, ""));
+            for (int from = 0; from < 12; from++) {
+                int far = round[(at - from + 12) % 12];
+                int farther = round[(at + 4 - from + 12) % 12];
+                CHECK.due("from 2," + from + " by " + at, x, x.theft(0, 2, from, far + 1 + 4 + 1, false), 3, 0);
+                CHECK.due("one less", x, x.theft(0, 2, from, far + 1 + 4, false), 0, 0);
+                CHECK.due("from 1," + from, x, x.theft(0, 1, from, farther + 1, false), 2, 0);
+                CHECK.due("one less", x, x.theft(0, 1, from, farther, false), 0, 0);
+                CHECK.due("from 0," + from + ", in and out", x, x.theft(0, 0, from, farther + 2, false), 2, 0);
+                CHECK.due("one less", x, x.theft(0, 0, from, farther + 1, false), 0, 0);
+            }
+        }
+        CHECK.promise(35, "theft, from the innermost of six");
+        StringBuilder text = new StringBuilder("rings 9,9,9,9,9,9");
+        for (int ring = 0; ring < 5; ring++) {
+            text.append(gate("g" + (char) ('a' + ring), ring, ring % 2 == 0 ? 11 : 5, 9, 9, 0));
+        }
+        NarrowRings x = Check.city(text + good("a", 1, 1, 1, ""));
+        // From 5,5 half round to 11, and so in each ring but ring 0: 5 of 6 and 5 gates.
+        CHECK.due("in 35", x, x.theft(0, 5, 5, 35, false), 31, 0);
+        CHECK.due("in 34", x, x.theft(0, 5, 5, 34, false), 0, 0);
+        CHECK.due("from 4, in 28", x, x.theft(0, 4, 11, 28, false), 15, 0);
+        CHECK.due("from 4, in 29", x, x.theft(0, 4, 11, 29, false), 15, 0);
+        CHECK.due("from 4, in 30", x, x.theft(0, 4, 11, 30, false), 31, 0);
+        CHECK.due("from ring 0, the innermost", x, x.theft(0, 0, 11, 58, false), 31, 0);
+        CHECK.due("from ring 0, not yet", x, x.theft(0, 0, 11, 57, false), 15, 0);
     }
 }

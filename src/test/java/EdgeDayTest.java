@@ -28,6 +28,9 @@ public final class EdgeDayTest {
         beyondAGate();
         cartsOfTheRing();
         tollsAndWork();
+        cutLoads();
+        fewerLoadsThanBefore();
+        asManyAsMayBe();
         marksUpToThree();
         marksKeepTheDay();
         marksGone();
@@ -467,6 +470,94 @@ public final class EdgeDayTest {
         gate(x, 1, -2, 198, 24);
     }
 
+    /** In parts of 3 hours each, where the whole would be 9: only a part is worked and carried at a time. */
+    private static void cutLoads() {
+        CHECK.promise(21, "load, CUT: its parts");
+        NarrowRings x = Check.city("rings 9,9" + gate("g", 0, 4, 1, 2) + ";cart ka in 0 bears 3;cart kb in 1 bears 3;"
+            + "good p long 1 wide 1 high 1 weighs 9 parts 3" + order("o", 0, 3, 1, 5, 0));
+        CHECK.due("loads", x, x.loads(), 3, 0);
+        pass(x, 1);
+        load(x, 0, 0, 0, 3, ON_CART, 1, 0, 0, -2);
+        load(x, 1, 0, 0, 3, MUST_GO_ON, 0, 1, -2, -2);
+        load(x, 2, 0, 0, 3, MUST_GO_ON, 0, 1, -2, -2);
+        pass(x, 1);
+        load(x, 0, 0, 0, 4, LOADED_OVER, 3, 0, -2, -2);
+        load(x, 1, 0, 0, 3, ON_CART, 1, 1, 0, -2);
+        gate(x, 0, 0, 2, 3);
+        pass(x, 3);
+        load(x, 0, 0, 1, 4, ON_CART, 1, 0, 1, -2);
+        load(x, 1, 0, 0, 4, LOADED_OVER, 3, 3, -2, -2);
+        load(x, 2, 0, 0, 4, WAITS, 0, 4, -2, -2);
+        gate(x, 0, 1, 4, 6);
+        pass(x, 6);
+        load(x, 0, 0, 1, 5, THERE, 0, 0, -2, 5);
+        load(x, 1, 0, 1, 5, THERE, 0, 3, -2, 8);
+        load(x, 2, 0, 1, 4, ON_CART, 1, 6, 1, -2);
+        gate(x, 0, -2, 6, 9);
+        pass(x, 1);
+        load(x, 2, 0, 1, 5, THERE, 0, 6, -2, 11);
+    }
+
+    /** A load of a DAY before is in no later one that has fewer. */
+    private static void fewerLoadsThanBefore() {
+        CHECK.promise(20, "loads, fewer than before");
+        NarrowRings x = Check.city("rings 9,9" + gate("g", 0, 4, 1, 2) + cart("ka", 0) + cart("kb", 1) + GOOD
+            + order("oa", 0, 0, 0, 3, 1) + order("ob", 0, 4, 1, 4, 0) + order("oc", 0, 3, 1, 4, 0));
+        pass(x, 3);
+        CHECK.due("three", x, x.loads(), 3, 0);
+        CHECK.due("they waited", x, x.waited(), 1 + 2, 0);
+        CHECK.due("close", x.close(0), true);
+        CHECK.due("one", x, x.loads(), 1, 0);
+        CHECK.due("no load 1", x, x.load(1, 0), -1, 1);
+        CHECK.due("nobody waited", x, x.waited(), 0, 0);
+        pass(x, 2);
+        load(x, 0, 0, 0, 0, ON_CART, 3, 0, 0, -2);
+        CHECK.due("nobody waited", x, x.waited(), 0, 0);
+        CHECK.due("nobody on the other cart", x, x.cart(1), -2, 0);
+        gate(x, 0, -2, 0, 0);
+        pass(x, 60);
+        load(x, 0, 0, 0, 3, THERE, 0, 0, -2, 4);
+        CHECK.due("nobody waited", x, x.waited(), 0, 0);
+        gate(x, 0, -2, 0, 0);
+    }
+
+    /** Eight orders of nine parts each, eleven gates, eight carts. */
+    private static void asManyAsMayBe() {
+        CHECK.promise(20, "loads, as many as may be");
+        StringBuilder text = new StringBuilder("rings 9,9;good p long 1 wide 1 high 1 weighs 9 parts 9");
+        for (int c = 0; c < 8; c++) {
+            text.append(";cart k").append((char) ('a' + c)).append(" in 0 bears 1");
+        }
+        for (int o = 0; o < 8; o++) {
+            text.append(order("o" + (char) ('a' + o), 0, 0, 0, 6, 0));
+        }
+        NarrowRings x = Check.city(text.toString());
+        for (int g = 0; g < 11; g++) {
+            CHECK.due("dig", x.dig(0, 0, 9, 9, 1, 0), g);
+        }
+        CHECK.due("72", x, x.loads(), 72, 0);
+        CHECK.due("the last", x, x.load(71, 0), 7, 0);
+        CHECK.due("no more", x, x.load(72, 0), -1, 1);
+        pass(x, 1);
+        for (int c = 0; c < 8; c++) {
+            CHECK.due("cart " + c, x, x.cart(c), c, 0);
+        }
+        CHECK.due("no more", x, x.cart(8), -1, 1);
+        CHECK.due("all but eight wait", x, x.waited(), 64, 0);
+        CHECK.due("mark", x.mark(), 0);
+        pass(x, 60);
+        // Eight of them every six hours: the last eight are THERE in HOUR 54.
+        load(x, 71, 7, 0, 6, THERE, 0, 48, -2, 54);
+        load(x, 63, 7, 0, 6, THERE, 0, 42, -2, 48);
+        CHECK.due("6, 12, .. 48, of eight each", x, x.waited(), 8 * 6 * 36, 0);
+        CHECK.promise(28, "back, of as many as may be");
+        CHECK.due("back", x, x.back(0), true, 0);
+        load(x, 71, 7, 0, 0, MUST_GO_ON, 0, 1, -2, -2);
+        CHECK.due("cart 7", x, x.cart(7), 7, 0);
+        CHECK.due("busy 10", x, x.busy(10), -2, 0);
+        CHECK.due("busy 11", x, x.busy(11), -1, 1);
+    }
+
     // -- promises 27 and 28
 
     private static NarrowRings city() {
@@ -509,7 +600,7 @@ public final class EdgeDayTest {
         CHECK.due("HOUR 120", x.mark(), 2);
         CHECK.due("a fourth is not kept", x, x.mark(), -1, 3);
         int[] hours = {0, 4, 120};
-        for (int to : new int[] {1, 0, 2, 0, 1}) {
+        for (int to : new int[] {1, 0, 2, 2, 1, 0, 2}) {
             CHECK.due("back(" + to + ")", x, x.back(to), true, 0);
             CHECK.due("the HOUR", x.size(5), hours[to]);
             CHECK.due("the MARKS", x.size(6), 3);
@@ -533,7 +624,9 @@ public final class EdgeDayTest {
             {{0, 0, 2, LOADED_OVER, 2, 1, -2, -2}, {1, 1, 2, ON_CART, 2, 1, 1, -2}, {2, 0, 1, NOT_BEGUN, 0, 0, -2, -2}},
             {{0, 1, 2, THERE, 0, 1, -2, 5}, {1, 1, 4, THERE, 0, 1, -2, 5}, {2, 0, 1, THERE, 0, 0, -2, 5}}};
         for (int l = 0; l < 3; l++) {
-            load(x, l, loads[which][l]);
+            for (int what = 0; what < 8; what++) {
+                CHECK.due("by MARK " + which + ", load(" + l + ", " + what + ")", x.load(l, what), loads[which][l][what]);
+            }
         }
         int[][] gates = {{-2, 0, 0}, {0, 6, 8}, {-2, 6, 8}};
         gate(x, 0, gates[which][0], gates[which][1], gates[which][2]);

@@ -21,6 +21,7 @@ public final class EdgeFitTest {
         deepestByCarts();
         deepestByGates();
         deepestCutUpwards();
+        fullTables();
         CHECK.end();
     }
 
@@ -371,5 +372,43 @@ public final class EdgeFitTest {
         CHECK.due("not whole", y, y.deepest(0), 0, 0);
         CHECK.due("close", y.close(0), true);
         CHECK.due("nothing goes through", y, y.deepestCut(0), 0, 0);
+    }
+
+    /** Eight carts of which none bears it, eleven gates of which none lets it through, and the last that does. */
+    private static void fullTables() {
+        StringBuilder gates = new StringBuilder();
+        for (int g = 0; g < 11; g++) {
+            gates.append(";gate g").append((char) ('a' + g)).append(" in 0 at 0 wide ").append(g == 10 ? 2 : 1)
+                .append(" high 9 hands 1 toll 0");
+        }
+        StringBuilder carts = new StringBuilder();
+        for (int c = 0; c < 8; c++) {
+            carts.append(";cart k").append((char) ('a' + c)).append(c < 4 ? " in 1 bears " : " in 0 bears ").append(c % 4 == 3 ? 2 : 1);
+        }
+        NarrowRings x = Check.city("rings 9,9" + gates + carts + ";good a long 1 wide 2 high 2 weighs 2 parts 2;"
+            + "good b long 1 wide 3 high 3 weighs 2 parts 2;good c long 1 wide 1 high 1 weighs 3 parts 3;"
+            + "good d long 1 wide 1 high 1 weighs 9 parts 2");
+        int[] deepest = {1, 0, -2, -2};
+        int[] cut = {1, 0, 1, -2};
+        for (int good = 0; good < 4; good++) {
+            CHECK.promise(9, "deepest, by the last of eleven gates and of eight carts");
+            CHECK.due("good " + good, x, x.deepest(good), deepest[good], 0);
+            CHECK.promise(10, "deepestCut, by the last of eleven gates and of eight carts");
+            CHECK.due("good " + good, x, x.deepestCut(good), cut[good], 0);
+        }
+        CHECK.promise(7, "fits, the last of eleven gates");
+        CHECK.due("gate 10", x, x.fits(0, true, 10, 0), 1, 0);
+        CHECK.due("gate 9", x, x.fits(0, true, 9, 0), 0, 0);
+        CHECK.due("gate 11", x, x.fits(0, true, 11, 0), -1, 1);
+        CHECK.promise(8, "bars, the last of eleven gates");
+        CHECK.due("gate 10", x, x.bars(0, 10, false), 0, 0);
+        CHECK.due("gate 9", x, x.bars(0, 9, true), 2, 0);
+        CHECK.due("gate 11", x, x.bars(0, 11, true), -1, 1);
+        CHECK.promise(9, "deepest, carts and gates of an earlier city");
+        CHECK.due("another city", Check.tell(x, "rings 9,9"), 2);
+        CHECK.due("with one cart and no gate", Check.tell(x, "rings 9,9;cart c in 0 bears 1;"
+            + "good p long 1 wide 1 high 1 weighs 1;good q long 1 wide 1 high 1 weighs 2"), 2);
+        CHECK.due("no gate", x, x.deepest(0), 0, 0);
+        CHECK.due("no cart that bears it", x, x.deepest(1), -2, 0);
     }
 }

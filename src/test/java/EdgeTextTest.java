@@ -16,6 +16,7 @@ public final class EdgeTextTest {
         tapeByCity();
         cityStays();
         cityBegins();
+        nothingIsLeft();
         faultIsOfTheLatest();
         whereIsOfTheLatest();
         CHECK.promise(3, "city, fault, where by Terms I");
@@ -35,6 +36,9 @@ public final class EdgeTextTest {
         aheadOfUse();
         lacksAndEnds();
         missingTokens();
+        misspelt();
+        namesAlike();
+        asFullAsMayBe();
         whichFaultIsFirst();
         CHECK.end();
     }
@@ -256,6 +260,41 @@ public final class EdgeTextTest {
         CHECK.due("no store", x.hold(0), 999);
         for (int rings = 2; rings <= 6; rings++) {
             fine("rings 9,9,9,9,9,9".substring(0, 5 + 2 * rings), rings);
+        }
+    }
+
+    /** What an earlier city or a text with a FAULT told is in none of the later ones. */
+    private static void nothingIsLeft() {
+        CHECK.promise(3, "city, nothing is left of an earlier one");
+        String full = "rings 9,8;" + GATE + ";gate h in 0 at 3 wide 9 high 9 hands 9 toll 9;cart c in 0 bears 9;"
+            + "cart d in 1 bears 9;" + GOOD + ";store 0 bread 9 mouths 9;store 1 bread 9 mouths 9;"
+            + "order o of p from 0,0 to 0,3 hour 0";
+        int[] none = {2, 0, 0, 0, 0, 0, 0, 0, 0};
+        for (int texts = 1; texts <= 3; texts++) {
+            for (String between : new String[] {"rings 9,9", full, full + ";", "!"}) {
+                NarrowRings x = Check.city(full);
+                CHECK.due("close", x.close(0), true);
+                CHECK.due("close", x.close(1), true);
+                CHECK.due("pass", x.pass(1), 1);
+                for (int i = 1; i < texts; i++) {
+                    Check.tell(x, between);
+                }
+                CHECK.due("a city of rings alone", x, Check.tell(x, "rings 7,7"), 2, 0);
+                for (int what = 0; what <= 8; what++) {
+                    CHECK.due("size(" + what + ")", x.size(what), none[what]);
+                }
+                CHECK.due("no mouths", x, x.hold(0), 999, 0);
+                CHECK.due("no orders", x, x.all(), 0, 0);
+                CHECK.due("no loads", x, x.waited(), 0, 0);
+                CHECK.due("what is dug is open", x.dig(0, 0, 1, 1, 1, 0), 0);
+                CHECK.due("gate 0", x.gate(0, 6), 0);
+                CHECK.due("what is dug behind it, too", x.dig(0, 0, 1, 1, 1, 0), 1);
+                CHECK.due("gate 1", x.gate(1, 6), 0);
+                CHECK.due("the same NAMES", x, Check.tell(x, full), 2, 0);
+                CHECK.due("gate 0 is open", x.gate(0, 6), 0);
+                CHECK.due("gate 1 is open", x.gate(1, 6), 0);
+                CHECK.due("its stores", x.hold(1), 0);
+            }
         }
     }
 
@@ -630,6 +669,72 @@ public final class EdgeTextTest {
             fault(head + line + ",", 1, head.length() + line.length());
             fault(head + line + ";", 1, head.length() + line.length() + 1);
         }
+    }
+
+    /** Each WORD that is no NAME with each of its letters changed, one less and one more. */
+    private static void misspelt() {
+        String head = RINGS + GOOD + ";";
+        String[] lines = {GATE, "cart c in 0 bears 1", "store 0 bread 1 mouths 1",
+            "good q long 1 wide 1 high 1 weighs 1 parts 2 tilts holy", "order o of p from 0,0 to 0,0 hour 0"};
+        for (String line : lines) {
+            String[] words = line.split(" ");
+            int at = 0;
+            for (int i = 0; i < words.length; i++) {
+                boolean name = i == 1 || i == 3 && words[0].equals("order");
+                if (!name && words[i].charAt(0) >= 'a') {
+                    misspelt(head + line.substring(0, at), words[i], line.substring(at + words[i].length()));
+                }
+                at += words[i].length() + 1;
+            }
+        }
+        misspelt("", "rings", " 9,9");
+    }
+
+    private static void misspelt(String before, String word, String behind) {
+        for (int i = 0; i < word.length(); i++) {
+            char other = word.charAt(i) == 'z' ? 'a' : (char) (word.charAt(i) + 1);
+            fault(before + word.substring(0, i) + other + word.substring(i + 1) + behind, 1, before.length());
+            fault(before + word.substring(0, i) + word.substring(i + 1) + behind, 1, before.length());
+        }
+        fault(before + word + "s" + behind, 1, before.length());
+        fault(before + "s" + word + behind, 1, before.length());
+        fault(before + word + word.charAt(0) + behind, 1, before.length());
+    }
+
+    private static void namesAlike() {
+        String[] alike = {"a", "aa", "aaaaaaaa", "b", "ab", "ba", "z", "zzzzzzzz"};
+        StringBuilder text = new StringBuilder("rings 9,9");
+        for (String name : alike) {
+            text.append(";good ").append(name).append(" long 1 wide 1 high 1 weighs 1");
+        }
+        fine(text.toString(), 2);
+        for (int i = 0; i < alike.length; i++) {
+            // The carts bear no more than 1, so which good the order is of can be told by its way.
+            String good = "good " + alike[i] + " long 1 wide 1 high 1 weighs ";
+            String heavy = text.toString().replace(good + "1", good + "2") + ";cart c in 0 bears 1";
+            for (int k = 0; k < alike.length; k++) {
+                NarrowRings x = Check.city(heavy + ";order o of " + alike[k] + " from 0,0 to 0,0 hour 0");
+                CHECK.due(alike[i] + " is heavy, of " + alike[k], x, x.payOf(0), i == k ? -2 : 0, 0);
+            }
+            fault(text + ";cart " + alike[i], 3, text.length() + 6);
+        }
+    }
+
+    /** Of each sort as many as 900 bytes hold. */
+    private static void asFullAsMayBe() {
+        StringBuilder text = new StringBuilder("rings9,9,9,9,9,9");
+        text.append(times("gate a? in0at0wide1high1hands1toll0", 11)).append(times("cart b? in0bears1", 8))
+            .append(times("good c? long1wide1high1weighs1", 4)).append(times("order d? of ca from0,0to0,0hour0", 6));
+        CHECK.due("no more than 900 bytes", text.length() <= 900, true);
+        NarrowRings x = Check.city(text.toString());
+        int[] sizes = {6, 11, 8, 4, 6, 0, 0, 0, 0};
+        for (int what = 0; what <= 8; what++) {
+            CHECK.due("size(" + what + ")", x.size(what), sizes[what]);
+        }
+        while (text.length() < 900) {
+            text.append(' ');
+        }
+        fine(text.toString(), 6);
     }
 
     /** The first that is met from the left, though one behind it has a lesser number. */

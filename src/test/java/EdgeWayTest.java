@@ -15,6 +15,7 @@ public final class EdgeWayTest {
         weightByHands();
         eitherWay();
         sixRings();
+        elevenGates();
         leastPay();
         leastHours();
         firstGates();
@@ -174,6 +175,27 @@ public final class EdgeWayTest {
         CHECK.promise(16, "gateOf, payOf, hoursOf: five gates");
         way("inward", x, 0, 5 * 198, 5 * 99 + 6 * 6, 1, 0, 1, 2, 3, 4);
         way("outward", x, 1, 5 * 198, 5 * 99 + 6 * 6, 1, 4, 3, 2, 1, 0);
+    }
+
+    /** The last of eleven gates leads on; and the gates of an earlier city lead nowhere. */
+    private static void elevenGates() {
+        CHECK.promise(16, "gateOf, eleven gates");
+        StringBuilder text = new StringBuilder(THREE);
+        for (int g = 0; g < 11; g++) {
+            text.append(gate("g" + (char) ('a' + g), g < 5 ? 0 : 1, g, 20, 1, g == 4 || g == 10 ? 0 : 1));
+        }
+        text.append(";good a long 1 wide 1 high 1 weighs 1").append(order("oa", "a", 0, 4, 2, 10))
+            .append(order("ob", "a", 2, 10, 0, 4));
+        NarrowRings x = Check.city(text.toString());
+        way("inward", x, 0, 2, 8, 1, 4, 10);
+        way("outward", x, 1, 2, 8, 1, 10, 4);
+        CHECK.due("close the last", x.close(10), true);
+        way("then by the first", x, 0, 3, 8, 1, 4, 5);
+        CHECK.due("another city", Check.tell(x, "rings 9,9"), 2);
+        CHECK.due("with an outer gate alone", Check.tell(x, THREE + gate("g", 0, 4, 20, 1, 0)
+            + ";good a long 1 wide 1 high 1 weighs 1" + order("oa", "a", 0, 4, 2, 10)), 3);
+        CHECK.due("no way", x, x.payOf(0), -2, 0);
+        CHECK.due("no gate", x, x.gateOf(0, 0), -1, 6);
     }
 
     // -- BEST, by promises 13 to 16
