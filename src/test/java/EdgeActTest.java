@@ -26,6 +26,7 @@ public final class EdgeActTest {
         tenAreKept();
         sizes();
         troubleOfEachCall();
+        troubleWithoutACity();
         troubleStays();
         refusedChangeNothing();
         CHECK.end();
@@ -527,6 +528,21 @@ public final class EdgeActTest {
             CHECK.due("asked again", x.trouble(), number);
             CHECK.due("another that is refused", x, x.hold(-1), -1, 1);
         }
+    }
+
+    /** Each after a refusal by another number. */
+    private static void troubleWithoutACity() {
+        CHECK.promise(42, "trouble, without a CITY");
+        for (int call = 0; call < GIVEN; call++) {
+            NarrowRings x = new NarrowRings();
+            CHECK.due("refused", x, x.city(-1), -1, 2);
+            give(x, call);
+            // Of these alone UNDO is refused by 6, and a text that is told is none that is refused.
+            CHECK.due("call " + call, x.trouble(), call == 32 ? 6 : call == 33 ? 0 : 1);
+        }
+        NarrowRings x = new NarrowRings();
+        CHECK.due("refused", x, x.city(-1), -1, 2);
+        CHECK.due("gateOf", x, x.gateOf(0, 0), -1, 1);
     }
 
     private static void troubleStays() {

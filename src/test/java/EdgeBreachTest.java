@@ -25,6 +25,7 @@ public final class EdgeBreachTest {
         theftArguments();
         theftHours();
         theftThereAndBack();
+        theftInByOneOutByAnother();
         theftByAllGates();
         theftFits();
         theftCut();
@@ -431,6 +432,25 @@ public final class EdgeBreachTest {
         CHECK.due("by h and i", x, x.theft(0, 2, 6, 7, false), 6, 0);
         CHECK.due("g not yet", x, x.theft(0, 2, 6, 9, false), 6, 0);
         CHECK.due("by h and g", x, x.theft(0, 2, 6, 10, false), 7, 0);
+    }
+
+    /** By h, which takes 9 hours, in at its place, then by the way that is nearer to g, and out by g in 1. */
+    private static void theftInByOneOutByAnother() {
+        CHECK.promise(35, "theft, there by one gate and back by another");
+        int[] round = {0, 1, 2, 3, 4, 5, 6, 5, 4, 3, 2, 1};
+        for (int in = 0; in < 12; in++) {
+            for (int out = 0; out < 12; out++) {
+                int far = round[(in - out + 12) % 12];
+                NarrowRings x = Check.city("rings 9,9" + gate("g", 0, out, 9, 9, 0).replace("hands 1", "hands 9")
+                    + gate("h", 0, in, 9, 9, 0) + ";good a long 1 wide 1 high 1 weighs 9");
+                String what = "in at " + in + ", out at " + out;
+                CHECK.due(what, x, x.theft(0, 0, in, 9 + far + 1, false), 3, 0);
+                CHECK.due(what + ", not yet", x, x.theft(0, 0, in, 9 + far, false), 1, 0);
+                // From g's place the other way about: in by g, out by h.
+                CHECK.due(what + ", from the other's place", x, x.theft(0, 0, out, 1 + far + 9, false), 3, 0);
+                CHECK.due(what + ", from the other's place, not yet", x, x.theft(0, 0, out, far + 9, false), 1, 0);
+            }
+        }
     }
 
     private static void theftByAllGates() {

@@ -340,6 +340,13 @@ public final class EdgeFitTest {
         CHECK.due("by any place", x, x.deepest(0), 1, 0);
         NarrowRings y = Check.city("rings 9,9,9;gate h in 1 at 6 wide 9 high 9 hands 1 toll 0" + carts + good("a", 1, 1, 1, ""));
         CHECK.due("no outer gate", y, y.deepest(0), 0, 0);
+        // What is too wide on its side may lie; what is too wide lying may be on its side.
+        NarrowRings v = Check.city("rings 9,9;gate g in 0 at 0 wide 9 high 99 hands 1 toll 0" + carts.replace("in 2", "in 1")
+            + good("a", 1, 9, 10, "") + good("b", 10, 9, 10, " tilts") + good("c", 8, 10, 9, " tilts") + good("d", 1, 10, 10, " tilts"));
+        int[] lies = {1, 0, 1, -2};
+        for (int good = 0; good < 4; good++) {
+            CHECK.due("a ring takes it in some POSE, good " + good, v, v.deepest(good), lies[good], 0);
+        }
         // The POSE may change from gate to gate.
         NarrowRings z = Check.city("rings 9,9,9;gate g in 0 at 0 wide 9 high 1 hands 1 toll 0;"
             + "gate h in 1 at 0 wide 1 high 9 hands 1 toll 0" + carts + good("a", 1, 9, 1, "") + good("b", 1, 9, 1, " holy"));

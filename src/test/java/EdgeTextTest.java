@@ -36,6 +36,7 @@ public final class EdgeTextTest {
         aheadOfUse();
         lacksAndEnds();
         missingTokens();
+        missingCommas();
         misspelt();
         namesAlike();
         asFullAsMayBe();
@@ -669,6 +670,19 @@ public final class EdgeTextTest {
             fault(head + line + ",", 1, head.length() + line.length());
             fault(head + line + ";", 1, head.length() + line.length() + 1);
         }
+    }
+
+    private static void missingCommas() {
+        String head = RINGS + GOOD + ";order o of p from ";
+        fine(head + "0,0 to 0,0 hour 0", 2);
+        fault(head + "0 0 to 0,0 hour 0", 1, head.length() + 2);
+        fault(head + "0,0 to 0 0 hour 0", 1, head.length() + 9);
+        fault(head + "0;0 to 0,0 hour 0", 1, head.length() + 1);
+        fault(head + "0,,0 to 0,0 hour 0", 1, head.length() + 2);
+        fault("rings 9 9", 1, 8);
+        fault("rings 9,9 9", 1, 10);
+        fault("rings 9,,9", 1, 8);
+        fault("rings ,9,9", 1, 6);
     }
 
     /** Each WORD that is no NAME with each of its letters changed, one less and one more. */

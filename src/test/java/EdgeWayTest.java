@@ -86,13 +86,18 @@ public final class EdgeWayTest {
 
     private static void noWay() {
         NarrowRings x = Check.city("rings 9,9;cart ka in 0 bears 9;cart kb in 1 bears 9;good a long 1 wide 1 high 1 weighs 9;"
-            + "good b long 1 wide 1 high 1 weighs 10;good c long 1 wide 10 high 10 weighs 1");
+            + "good b long 1 wide 1 high 1 weighs 10;good c long 1 wide 10 high 10 weighs 1;"
+            + "good d long 1 wide 9 high 10 weighs 1;good e long 1 wide 10 high 9 weighs 1;"
+            + "good f long 1 wide 10 high 9 weighs 1 tilts holy");
         CHECK.promise(11, "pay, -2 if there is none");
         CHECK.due("no gate", x, x.pay(0, 0, 0, 1, 0), -2, 0);
         CHECK.due("no gate, outward", x, x.pay(0, 1, 0, 0, 0), -2, 0);
         CHECK.due("too heavy where it is", x, x.pay(1, 0, 0, 0, 0), -2, 0);
         CHECK.due("too wide where it is", x, x.pay(2, 1, 5, 1, 5), -2, 0);
         CHECK.due("there is one", x, x.pay(0, 1, 5, 1, 5), 0, 0);
+        CHECK.due("it FITS lying", x, x.pay(3, 1, 5, 1, 5), 0, 0);
+        CHECK.due("it FITS on its side", x, x.pay(4, 1, 5, 1, 5), 0, 0);
+        CHECK.due("it may not be on its side", x, x.pay(5, 1, 5, 1, 5), -2, 0);
         CHECK.promise(12, "hours, -2");
         CHECK.due("no gate", x, x.hours(0, 0, 0, 1, 0), -2, 0);
         CHECK.due("no gate, outward", x, x.hours(0, 1, 0, 0, 0), -2, 0);
